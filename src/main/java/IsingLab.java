@@ -710,7 +710,8 @@ public final class IsingLab {
         private static final int NUMBER = 2;
         private static final int MINUS = 3;
         private static final int SEMICOLON = 4;
-        private static final int BAD = 5;
+        private static final int BLANK = 5;
+        private static final int BAD = 6;
 
         private static final int NO_STATEMENT = -1;
         private static final int SIZE = 0;
@@ -734,7 +735,7 @@ public final class IsingLab {
         private int position = 0;
         private int kind = END;
         private int start = 0;
-        private int value = 0;
+        /** The number, or the number of the choice, that was read last. */
         private int number = 0;
         private int seen = 0;
 
@@ -746,9 +747,19 @@ public final class IsingLab {
         boolean readText() {
             advance();
             for (int statements = 0; statements <= length && kind != END; statements++) {
-                if (!readStatement()) {
+                int statement = statementAhead();
+                if (!admits(statement)) {
                     return false;
                 }
+                seen |= 1 << statement;
+                advance();
+                if (!readBody(statement)) {
+                    return false;
+                }
+                if (kind != SEMICOLON) {
+                    return fail(SYNTAX);
+                }
+                advance();
             }
             return true;
         }
@@ -757,26 +768,6 @@ public final class IsingLab {
             code = error;
             offset = start;
             return false;
-        }
-
-        private boolean readStatement() {
-            int statement = statementAhead();
-            if (statement == NO_STATEMENT) {
-                return fail(SYNTAX);
-            }
-            if (isMisplaced(statement)) {
-                return fail(MISPLACED);
-            }
-            seen |= 1 << statement;
-            advance();
-            if (!readBody(statement)) {
-                return false;
-            }
-            if (kind != SEMICOLON) {
-                return fail(SYNTAX);
-            }
-            advance();
-            return true;
         }
 
         private int statementAhead() {
@@ -807,13 +798,17 @@ public final class IsingLab {
             return wordIs("bond") ? BOND : NO_STATEMENT;
         }
 
-        private boolean isMisplaced(int statement) {
-            if (statement == BOND) {
-                return setup.bonds >= Setup.BOND_LIMIT;
+        private boolean admits(int statement) {
+            if (statement == NO_STATEMENT) {
+                return fail(SYNTAX);
             }
-            boolean repeated = (seen >> statement & 1) != 0;
+            boolean repeated = statement == BOND
+                    ? setup.bonds >= Setup.BOND_LIMIT : (seen >> statement & 1) != 0;
             boolean late = (statement == SIZE || statement == EDGE) && setup.bonds > 0;
-            return repeated || late;
+            if (repeated || late) {
+                return fail(MISPLACED);
+            }
+            return true;
         }
 
         private boolean readBody(int statement) {
@@ -828,11 +823,11 @@ public final class IsingLab {
                 case RATIO:
                     return readRatio();
                 case STRENGTH:
-                    good = readSigned(MAX_STRENGTH);
+                    good = readNumber(-MAX_STRENGTH, MAX_STRENGTH);
                     setup.strength = number;
                     return good;
                 case FIELD:
-                    good = readSigned(MAX_FIELD);
+                    good = readNumber(-MAX_FIELD, MAX_FIELD);
                     setup.field = number;
                     return good;
                 case RULE:
@@ -894,7 +889,7 @@ public final class IsingLab {
                 return fail(MISPLACED);
             }
             advance();
-            if (!readSigned(MAX_STRENGTH)) {
+            if (!readNumber(-MAX_STRENGTH, MAX_STRENGTH)) {
                 return false;
             }
             setup.addBond(row * setup.columns + column, down, number);
@@ -915,22 +910,16 @@ public final class IsingLab {
             return true;
         }
 
-        private boolean readSigned(int greatest) {
-            boolean negative = kind == MINUS;
+        /** A number may have a sign where its range goes below 0. */
+        private boolean readNumber(int least, int greatest) {
+            boolean negative = least < 0 && kind == MINUS;
             if (negative) {
                 advance();
             }
-            boolean good = readNumber(0, greatest);
-            if (negative) {
-                number = -number;
-            }
-            return good;
-        }
-
-        private boolean readNumber(int least, int greatest) {
             if (kind != NUMBER) {
                 return fail(SYNTAX);
             }
+            int value = negative ? -valueAhead() : valueAhead();
             if (value < least || value > greatest) {
                 return fail(OUT_OF_RANGE);
             }
@@ -951,57 +940,50 @@ public final class IsingLab {
             return true;
         }
 
+        private int valueAhead() {
+            int value = 0;
+            for (int at = start; at < position && at < length; at++) {
+                value = value * 10 + (text[at] - '0');
+            }
+            return value;
+        }
+
         private void advance() {
-            while (position < length && (text[position] == ' ' || text[position] == '\n')) {
+            while (position < length && kindAt(position) == BLANK) {
                 position++;
             }
             start = position;
             if (position >= length) {
                 kind = END;
-            } else if (isLetter(position)) {
-                takeWord();
-            } else if (isDigit(position)) {
-                takeNumber();
-            } else {
-                takeSign();
+                return;
             }
-        }
-
-        private boolean isLetter(int at) {
-            return text[at] >= 'a' && text[at] <= 'z';
-        }
-
-        private boolean isDigit(int at) {
-            return text[at] >= '0' && text[at] <= '9';
-        }
-
-        private void takeWord() {
-            kind = WORD;
-            while (position < length && isLetter(position)) {
-                position++;
-            }
-        }
-
-        private void takeNumber() {
-            value = 0;
-            while (position < length && isDigit(position)) {
-                if (position - start < MAX_DIGITS) {
-                    value = value * 10 + (text[position] - '0');
+            kind = kindAt(position);
+            position++;
+            if (kind == WORD || kind == NUMBER) {
+                while (position < length && kindAt(position) == kind) {
+                    position++;
                 }
-                position++;
             }
-            kind = position - start <= MAX_DIGITS ? NUMBER : BAD;
-        }
-
-        private void takeSign() {
-            if (text[position] == '-') {
-                kind = MINUS;
-            } else if (text[position] == ';') {
-                kind = SEMICOLON;
-            } else {
+            if (kind == NUMBER && position - start > MAX_DIGITS) {
                 kind = BAD;
             }
-            position++;
+        }
+
+        private int kindAt(int at) {
+            byte sign = text[at];
+            if (sign >= 'a' && sign <= 'z') {
+                return WORD;
+            }
+            if (sign >= '0' && sign <= '9') {
+                return NUMBER;
+            }
+            switch (sign) {
+                case ' ': return BLANK;
+                case '\n': return BLANK;
+                case '-': return MINUS;
+                case ';': return SEMICOLON;
+                default: return BAD;
+            }
         }
     }
 
@@ -1171,7 +1153,8 @@ public final class IsingLab {
         }
 
         int productAt(long configuration, int bond) {
-            return lattice.isAligned(configuration, bond) ? strengths[bond] : -strengths[bond];
+            long unlike = (configuration >>> lattice.firsts[bond] ^ configuration >>> lattice.seconds[bond]) & 1;
+            return unlike == 0 ? strengths[bond] : -strengths[bond];
         }
 
         int energyOf(long configuration) {
