@@ -97,6 +97,8 @@ public final class OutputAndSavingTest {
         Check.same("save", x.saveState(), energy);
         x.setRatio(1, 9);
         x.setField(-3);
+        x.setRule(IsingLab.EAGER);
+        x.sweep(1);
         x.setRule(IsingLab.GREEDY);
         x.setBond(9, 3);
         x.setBond(0, 0);

@@ -121,6 +121,9 @@ public final class SamplesTest {
         Check.argument("101 more", () -> x.sampleSweeps(101));
         Check.same("no sweeps were made", x.count(7), attempts);
         Check.same("spins of two kinds", x.visited(), 2);
+        x.saveState();
+        Check.same("the last one", x.sample(), 10000);
+        x.restoreState();
         Check.same("1 more", x.sampleSweeps(1), 10000);
         Check.state("another", x::sample);
         Check.state("another by a sweep", () -> x.sampleSweeps(1));

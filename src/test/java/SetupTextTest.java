@@ -286,6 +286,7 @@ public final class SetupTextTest {
         x.saveState();
         x.printGrid();
         x.setBond(0, -3);
+        Check.same("ground before", x.groundEnergy(), -(31 * 2 - 3));
         Check.load(x, "size 2 2;");
         int[] numbers = {2, 2, 8, 1, 2, 0, 0, 0, 0, 0, 1};
         for (int i = 0; i < numbers.length; i++) {
@@ -296,6 +297,7 @@ public final class SetupTextTest {
         Check.same("visited", x.visited(), 0);
         Check.state("saved", x::restoreState);
         Check.same("energy", x.energy(), -8);
+        Check.same("the levels follow", x.groundEnergy(), -8);
         Check.same("a text of 600 bytes", Check.load(x, PAD), 16);
     }
 }

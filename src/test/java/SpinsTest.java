@@ -92,6 +92,10 @@ public final class SpinsTest {
         Check.same("free", x.free(), 2);
         x.flip(0);
         Check.same("unsatisfied then", x.unsatisfied(), 1);
+        x.flip(4);
+        Check.same("free with a fall", x.free(), freeByDelta(x));
+        Check.same("a fall", x.delta(4) < 0, true);
+        x.flip(4);
         x.flip(5);
         Check.same("unsatisfied at last", x.unsatisfied(), 3);
         Check.same("all stable", Check.lab("size 8 8;").stable(), 64);
@@ -100,6 +104,14 @@ public final class SpinsTest {
         Check.same("none stable", Check.lab("strength 0;").stable(), 0);
         Check.same("all unsatisfied", Check.lab("strength -1;").unsatisfied(), 32);
         Check.same("chess on a torus of 3", Check.lab("size 3 3;strength -1;start chess;").unsatisfied(), 6);
+    }
+
+    private static int freeByDelta(IsingLab x) {
+        int free = 0;
+        for (int site = 0; site < 6; site++) {
+            free += x.delta(site) == 0 ? 1 : 0;
+        }
+        return free;
     }
 
     private static void domains() {
