@@ -70,6 +70,27 @@ final class Check {
         lab.truncateInput(text.length());
     }
 
+    /** A text that must not be loaded: told by its error's code and offset. */
+    static void error(String text, int code, int offset) {
+        IsingLab x = new IsingLab();
+        String told = "\"" + text + "\"";
+        same(told, load(x, text), -1);
+        same(told + ": code", x.errorCode(), code);
+        same(told + ": offset", x.errorOffset(), offset);
+    }
+
+    static void syntax(String text, int offset) {
+        error(text, IsingLab.SYNTAX, offset);
+    }
+
+    static void range(String text, int offset) {
+        error(text, IsingLab.OUT_OF_RANGE, offset);
+    }
+
+    static void misplaced(String text, int offset) {
+        error(text, IsingLab.MISPLACED, offset);
+    }
+
     static IsingLab lab(String text) {
         IsingLab lab = new IsingLab();
         if (load(lab, text) < 0) {

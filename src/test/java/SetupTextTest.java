@@ -129,8 +129,8 @@ public final class SetupTextTest {
             twelve.append("bond 0 0 down 3;");
         }
         Check.same("12 bonds", Check.load(new IsingLab(), twelve.toString()), 16);
-        error("13 bonds", twelve + "bond 0 0 down 3;", IsingLab.MISPLACED, 192);
-        error("the 13th is met at its first word", twelve + " bond", IsingLab.MISPLACED, 193);
+        Check.misplaced(twelve + "bond 0 0 down 3;", 192);
+        Check.misplaced(twelve + " bond", 193);
     }
 
     private static void blanksAndSigns() {
@@ -140,119 +140,100 @@ public final class SetupTextTest {
         Check.same("a bond without blanks", x.bond(2, 2), -2);
     }
 
-    private static void error(String what, String text, int code, int offset) {
-        IsingLab x = new IsingLab();
-        Check.same(what, Check.load(x, text), -1);
-        Check.same(what + ": code", x.errorCode(), code);
-        Check.same(what + ": offset", x.errorOffset(), offset);
-    }
-
-    private static void syntax(String text, int offset) {
-        error("\"" + text + "\"", text, IsingLab.SYNTAX, offset);
-    }
-
-    private static void range(String text, int offset) {
-        error("\"" + text + "\"", text, IsingLab.OUT_OF_RANGE, offset);
-    }
-
-    private static void misplaced(String text, int offset) {
-        error("\"" + text + "\"", text, IsingLab.MISPLACED, offset);
-    }
-
     private static void syntaxErrors() {
-        syntax(";", 0);
-        syntax(" 5", 1);
-        syntax("-", 0);
-        syntax("sizes 4 4;", 0);
-        syntax("siz 4 4;", 0);
-        syntax("Size 4 4;", 0);
-        syntax("up;", 0);
-        syntax("size", 4);
-        syntax("size 4", 6);
-        syntax("size 4 4", 8);
-        syntax("size 4 4  \n", 11);
-        syntax("size 4 4 4;", 9);
-        syntax("size 4 -4;", 7);
-        syntax("size 4 four;", 7);
-        syntax("size 44444 4;", 5);
-        syntax("size 00004 4;", 5);
-        syntax("seed 99999;", 5);
-        syntax("seed -1;", 5);
-        syntax("ratio -1 2;", 6);
-        syntax("edge;", 4);
-        syntax("edge ring;", 5);
-        syntax("edge 1;", 5);
-        syntax("edge torus plane;", 11);
-        syntax("rule up;", 5);
-        syntax("start greedy;", 6);
-        syntax("field --1;", 7);
-        syntax("field +1;", 6);
-        syntax("field - ;", 8);
-        syntax("strength;", 8);
-        syntax("field 1.5;", 7);
-        syntax("bond 0 0 left 1;", 9);
-        syntax("bond 0 right 1;", 7);
-        syntax("bond 0 0 1;", 9);
-        syntax("bond 0 0 right;", 14);
-        syntax("bond 0 0 right 1", 16);
-        syntax("bond -0 0 right 1;", 5);
-        syntax("field 1;\tseed 1;", 8);
-        syntax("field 1;;", 8);
-        syntax("field 1 seed 1;", 8);
-        syntax("field 1;\0", 8);
+        Check.syntax(";", 0);
+        Check.syntax(" 5", 1);
+        Check.syntax("-", 0);
+        Check.syntax("sizes 4 4;", 0);
+        Check.syntax("siz 4 4;", 0);
+        Check.syntax("Size 4 4;", 0);
+        Check.syntax("up;", 0);
+        Check.syntax("size", 4);
+        Check.syntax("size 4", 6);
+        Check.syntax("size 4 4", 8);
+        Check.syntax("size 4 4  \n", 11);
+        Check.syntax("size 4 4 4;", 9);
+        Check.syntax("size 4 -4;", 7);
+        Check.syntax("size 4 four;", 7);
+        Check.syntax("size 44444 4;", 5);
+        Check.syntax("size 00004 4;", 5);
+        Check.syntax("seed 99999;", 5);
+        Check.syntax("seed -1;", 5);
+        Check.syntax("ratio -1 2;", 6);
+        Check.syntax("edge;", 4);
+        Check.syntax("edge ring;", 5);
+        Check.syntax("edge 1;", 5);
+        Check.syntax("edge torus plane;", 11);
+        Check.syntax("rule up;", 5);
+        Check.syntax("start greedy;", 6);
+        Check.syntax("field --1;", 7);
+        Check.syntax("field +1;", 6);
+        Check.syntax("field - ;", 8);
+        Check.syntax("strength;", 8);
+        Check.syntax("field 1.5;", 7);
+        Check.syntax("bond 0 0 left 1;", 9);
+        Check.syntax("bond 0 right 1;", 7);
+        Check.syntax("bond 0 0 1;", 9);
+        Check.syntax("bond 0 0 right;", 14);
+        Check.syntax("bond 0 0 right 1", 16);
+        Check.syntax("bond -0 0 right 1;", 5);
+        Check.syntax("field 1;\tseed 1;", 8);
+        Check.syntax("field 1;;", 8);
+        Check.syntax("field 1 seed 1;", 8);
+        Check.syntax("field 1;\0", 8);
     }
 
     private static void rangeErrors() {
-        range("size 1 4;", 5);
-        range("size 9 4;", 5);
-        range("size 4 1;", 7);
-        range("size 4 9;", 7);
-        range("size 0 4;", 5);
-        range("ratio 0 2;", 6);
-        range("ratio 99 100;", 6);
-        range("ratio 5 5;", 8);
-        range("ratio 5 4;", 8);
-        range("ratio 5 100;", 8);
-        range("strength 4;", 9);
-        range("strength - 4;", 11);
-        range("field 4;", 6);
-        range("field -4;", 7);
-        range("field -9999;", 7);
-        range("bond 4 0 right 1;", 5);
-        range("bond 0 4 right 1;", 7);
-        range("size 2 3;bond 2 0 right 1;", 14);
-        range("size 2 3;bond 1 3 right 1;", 16);
-        range("bond 0 0 right 4;", 15);
-        range("bond 0 0 down -4;", 15);
+        Check.range("size 1 4;", 5);
+        Check.range("size 9 4;", 5);
+        Check.range("size 4 1;", 7);
+        Check.range("size 4 9;", 7);
+        Check.range("size 0 4;", 5);
+        Check.range("ratio 0 2;", 6);
+        Check.range("ratio 99 100;", 6);
+        Check.range("ratio 5 5;", 8);
+        Check.range("ratio 5 4;", 8);
+        Check.range("ratio 5 100;", 8);
+        Check.range("strength 4;", 9);
+        Check.range("strength - 4;", 11);
+        Check.range("field 4;", 6);
+        Check.range("field -4;", 7);
+        Check.range("field -9999;", 7);
+        Check.range("bond 4 0 right 1;", 5);
+        Check.range("bond 0 4 right 1;", 7);
+        Check.range("size 2 3;bond 2 0 right 1;", 14);
+        Check.range("size 2 3;bond 1 3 right 1;", 16);
+        Check.range("bond 0 0 right 4;", 15);
+        Check.range("bond 0 0 down -4;", 15);
     }
 
     private static void misplacedErrors() {
         String[] kinds = {"size 4 4;", "edge plane;", "ratio 1 2;", "strength 1;", "field 1;", "rule eager;",
             "seed 1;", "start up;"};
         for (String kind : kinds) {
-            misplaced(kind + kind, kind.length());
+            Check.misplaced(kind + kind, kind.length());
         }
-        misplaced("edge plane; edge", 12);
-        misplaced("bond 0 0 right 1;size 4 4;", 17);
-        misplaced("bond 0 0 right 1;edge torus;", 17);
-        misplaced("size 4 4;bond 0 0 right 1;size 4 4;", 26);
-        misplaced("edge plane;bond 0 3 right 1;", 20);
-        misplaced("edge plane;bond 3 0 down 1;", 20);
-        misplaced("edge tube;bond 3 0 down 1;", 19);
-        misplaced("edge plane;bond 0 3 right", 20);
+        Check.misplaced("edge plane; edge", 12);
+        Check.misplaced("bond 0 0 right 1;size 4 4;", 17);
+        Check.misplaced("bond 0 0 right 1;edge torus;", 17);
+        Check.misplaced("size 4 4;bond 0 0 right 1;size 4 4;", 26);
+        Check.misplaced("edge plane;bond 0 3 right 1;", 20);
+        Check.misplaced("edge plane;bond 3 0 down 1;", 20);
+        Check.misplaced("edge tube;bond 3 0 down 1;", 19);
+        Check.misplaced("edge plane;bond 0 3 right", 20);
         Check.same("a tube's bond around", Check.load(new IsingLab(), "edge tube;bond 3 3 right 1;"), 16);
         Check.same("others behind a bond", Check.load(new IsingLab(), "bond 0 0 right 1;ratio 1 2;strength 1;field 1;"
                 + "rule eager;seed 1;start up;bond 0 0 right 1;"), 16);
     }
 
     private static void firstErrorWins() {
-        range("size 9 x;", 5);
-        range("size 9@4;", 5);
-        syntax("size 4@9;", 6);
-        range("bond 9 9 left 1;", 5);
-        misplaced("field 1;field 9;", 8);
-        syntax("size 4 4 size 4 4;", 9);
-        syntax("size 99999 4;", 5);
+        Check.range("size 9 x;", 5);
+        Check.range("size 9@4;", 5);
+        Check.syntax("size 4@9;", 6);
+        Check.range("bond 9 9 left 1;", 5);
+        Check.misplaced("field 1;field 9;", 8);
+        Check.syntax("size 4 4 size 4 4;", 9);
+        Check.syntax("size 99999 4;", 5);
     }
 
     private static void errorsChangeNothing() {
