@@ -60,14 +60,20 @@ final class Check {
     static void put(IsingLab lab, String text) {
         lab.truncateInput(0);
         for (int at = 0; at < text.length(); at += 20) {
-            int[] words = new int[5];
-            for (int i = 0; i < 20; i++) {
-                int sign = at + i < text.length() ? text.charAt(at + i) & 255 : 32;
-                words[i / 4] = words[i / 4] << 8 | sign;
-            }
+            int[] words = words(text, at);
             lab.appendInput(words[0], words[1], words[2], words[3], words[4]);
         }
         lab.truncateInput(text.length());
+    }
+
+    /** The five words of the portion of a text that begins at an offset; blanks follow the text's end. */
+    static int[] words(String text, int at) {
+        int[] words = new int[5];
+        for (int i = 0; i < 20; i++) {
+            int sign = at + i < text.length() ? text.charAt(at + i) & 255 : 32;
+            words[i / 4] = words[i / 4] << 8 | sign;
+        }
+        return words;
     }
 
     /** A text that must not be loaded: told by its error's code and offset. */

@@ -50,7 +50,7 @@ public final class DrawsBoundsTest {
         long state = 9999;
         long spins = -1;
         long greatest = 0;
-        for (int call = 0; call < 200; call++) {
+        for (int call = 0; call < 160; call++) {
             x.steps(1000);
             for (int i = 0; i < 1000; i++) {
                 state = next(state);

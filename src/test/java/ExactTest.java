@@ -49,15 +49,18 @@ public final class ExactTest {
 
     private static void levelOrder() {
         IsingLab x = Check.lab("size 3 4;edge tube;field -2;bond 0 0 right 3;strength -1;");
+        int levels = x.levels();
         int all = 0;
-        for (int level = 0; level < x.levels(); level++) {
+        int energy = Integer.MIN_VALUE;
+        int magnetization = 0;
+        for (int level = 0; level < levels; level++) {
+            int before = energy;
+            int beside = magnetization;
+            energy = x.level(level, 0);
+            magnetization = x.level(level, 1);
             all += x.level(level, 2);
-            if (level > 0) {
-                boolean higher = x.level(level, 0) > x.level(level - 1, 0);
-                boolean beside = x.level(level, 0) == x.level(level - 1, 0)
-                        && x.level(level, 1) > x.level(level - 1, 1);
-                Check.same("order at " + level, higher || beside, true);
-            }
+            boolean ordered = energy > before || energy == before && magnetization > beside;
+            Check.same("order at " + level, ordered, true);
         }
         Check.same("all configurations", all, 4096);
     }

@@ -12,8 +12,10 @@ public final class OutputAndSavingTest {
 
     private static String output(IsingLab x) {
         StringBuilder text = new StringBuilder();
-        for (int i = 0; x.outputByte(i) >= 0; i++) {
-            text.append((char) x.outputByte(i));
+        int sign = x.outputByte(0);
+        for (int i = 1; sign >= 0; i++) {
+            text.append((char) sign);
+            sign = x.outputByte(i);
         }
         return text.toString();
     }
@@ -33,8 +35,8 @@ public final class OutputAndSavingTest {
     }
 
     private static void tables() {
-        IsingLab x = Check.lab("size 2 2;edge plane;");
         for (int what = 0; what < 3; what++) {
+            IsingLab x = Check.lab("size 2 2;edge plane;");
             for (int b = 2; b <= 30; b += 14) {
                 StringBuilder want = new StringBuilder();
                 for (int a = 1; a < b; a++) {
@@ -44,6 +46,7 @@ public final class OutputAndSavingTest {
                 Check.same("text of " + what + ", " + b, output(x), want.toString());
             }
         }
+        IsingLab x = Check.lab("size 2 2;edge plane;");
         x.printTable(2, 2);
         Check.same("one line", output(x), "1:586;");
         IsingLab free = Check.lab("size 2 2;strength 0;");

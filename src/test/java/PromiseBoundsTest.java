@@ -33,6 +33,7 @@ public final class PromiseBoundsTest {
         tables();
         saving();
         wholeState();
+        greatestState();
         savedSamples();
         loadsReplace();
         callsUpTo512();
@@ -603,6 +604,36 @@ public final class PromiseBoundsTest {
         Check.state("nothing is saved behind a load", x::restoreState);
     }
 
+    /** 128 strengths, 64 spins and 10000 samples are saved, to the last of them. */
+    private static void greatestState() {
+        IsingLab x = Check.lab("size 8 8;rule eager;field 1;");
+        x.setBond(127, -3);
+        for (int i = 0; i < 100; i++) {
+            x.sampleSweeps(100);
+        }
+        int energy = x.saveState();
+        double mean = x.sampleMean(0);
+        double spread = x.sampleSpread();
+        x.setBond(127, 2);
+        x.setField(-3);
+        x.setConfiguration(1);
+        x.clearSamples();
+        for (int i = 0; i < 100; i++) {
+            x.sampleSweeps(100);
+        }
+        Check.same("samples that differ", x.sampleMean(0) == mean || x.sampleSpread() == spread, false);
+        Check.same("restored", x.restoreState(), energy);
+        Check.same("the last strength", x.bond(127, 2), -3);
+        Check.same("all spins", x.configuration(), -1L);
+        Check.same("all samples", x.count(9), 10000);
+        Check.same("their mean", x.sampleMean(0), mean);
+        Check.same("their magnetization", x.sampleMean(1), 64.0);
+        Check.same("their spread", x.sampleSpread(), spread);
+        Check.same("their configurations", x.visited(), 2);
+        Check.same("half of them with this energy", x.samplesWith(energy), 5000);
+        Check.state("no room for another", x::sample);
+    }
+
     /** The samples belong to the state: none, one, fewer and more than there are when it is restored. */
     private static void savedSamples() {
         for (int saved = 0; saved <= 3; saved++) {
@@ -632,7 +663,7 @@ public final class PromiseBoundsTest {
 
     /** "A successful load replaces everything": behind it, a laboratory is as a new one with the same text. */
     private static void loadsReplace() {
-        String[] texts = {"", "size 2 2;", "size 8 8;start chess;seed 9999;", "edge plane;strength 0;rule greedy;",
+        String[] texts = {"", "size 2 2;", "size 5 7;start chess;seed 9999;", "edge plane;strength 0;rule greedy;",
             "size 2 8;field -3;ratio 98 99;bond 1 7 down 3;rule eager;start down;"};
         for (Situation s : Situation.values()) {
             for (String text : texts) {
@@ -662,20 +693,24 @@ public final class PromiseBoundsTest {
 
     /** "An object is used for at most 512 calls after it has been made": the 512th is still answered. */
     private static void callsUpTo512() {
-        IsingLab x = Check.lab("size 8 8;rule eager;");
+        IsingLab x = new IsingLab();
         IsingLab y = new IsingLab();
         IsingLab z = new IsingLab();
-        for (int call = 0; call < 500; call++) {
+        x.setRule(IsingLab.EAGER);
+        for (int call = 2; call < 512; call++) {
             x.sweep(200);
+        }
+        for (int call = 1; call < 512; call++) {
             y.printTable(2, 30);
-            z.setField(call % 2);
+        }
+        for (int call = 1; call < 511; call += 2) {
+            z.setField(3);
             z.loadLab();
         }
-        Check.same("6400000 attempts", x.count(7), 6400000);
-        Check.same("6400000 flips", x.count(8), 6400000);
-        Check.same("all of them", x.accepted(), 1f);
-        Check.same("the same table", y.outputByte(0), (int) '1');
-        Check.same("the same laboratory", z.energy(), -32);
+        z.appendInput(BLANKS, BLANKS, BLANKS, BLANKS, BLANKS);
+        Check.same("attempts, by the 512th call", x.count(7), 510 * 200 * 16);
+        Check.same("a table, by the 512th call", y.printTable(2, 2), 6);
+        Check.same("a load, by the 512th call", z.loadLab(), 16);
     }
 
     private static void constants() {

@@ -136,16 +136,29 @@ public final class SamplesTest {
         x.restoreState();
         Check.state("another behind a restore", x::sample);
         Check.same("visited behind a restore", x.visited(), 2);
-        IsingLab y = Check.lab("size 8 8;ratio 98 99;seed 3;");
-        IsingLab z = Check.lab("size 8 8;ratio 98 99;seed 3;");
+        manyConfigurations("size 7 7;edge tube;strength 2;ratio 7 8;seed 3;");
+        manyConfigurations("size 2 8;ratio 98 99;seed 4;");
+        manyConfigurations("size 6 6;edge plane;strength -1;rule eager;seed 5;");
+    }
+
+    /** The model takes the sweeps one by one: it has no limit of 512 calls. */
+    private static void manyConfigurations(String text) {
+        IsingLab x = Check.lab(text);
+        NaiveLab model = new NaiveLab();
+        for (int at = 0; at < text.length(); at += 20) {
+            int[] words = Check.words(text, at);
+            model.appendInput(words[0], words[1], words[2], words[3], words[4]);
+        }
+        model.truncateInput(text.length());
+        model.loadLab();
         Set<Long> seen = new HashSet<>();
         for (int i = 0; i < 10000; i++) {
-            z.sweep(1);
-            seen.add(z.configuration());
+            model.sweep(1);
+            seen.add(model.configuration());
             if (i % 100 == 0) {
-                y.sampleSweeps(100);
+                x.sampleSweeps(100);
             }
         }
-        Check.same("many configurations", y.visited(), seen.size());
+        Check.same("configurations of " + text, x.visited(), seen.size());
     }
 }
